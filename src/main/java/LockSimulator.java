@@ -644,7 +644,7 @@ public final class LockSimulator {
         }
 
         boolean isIdle() {
-            return state == INFLATED && !isHeld() && queue.isEmpty() && waitSet.isEmpty();
+            return state == INFLATED && entries == 0 && queue.size == 0 && waitSet.size == 0;
         }
 
         void give(int thread, int times) {
