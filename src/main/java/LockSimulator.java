@@ -216,7 +216,10 @@ public final class LockSimulator {
         Lock lock = world.locks[object];
         description.setLength(0);
         lock.putDescription(description, world.biasIsValid(lock));
-        return k < description.length() ? description.charAt(k) : NONE;
+        if (k >= description.length()) {
+            return NONE;
+        }
+        return description.charAt(k);
     }
 
     private static boolean isObject(int object) {
@@ -537,12 +540,13 @@ public final class LockSimulator {
         static final int NOTIFIED = 1;
         static final int TIMED_OUT = 2;
         static final int WAS_INTERRUPTED = 3;
+        static final int NO_LIMIT = -1;
 
         int state;
         boolean interrupted;
         // The object in whose entry queue or wait set it is, or NONE.
         int place;
-        boolean limited;
+        // The time at which its wait ends, or NO_LIMIT.
         int limit;
         // The count that it gets when it acquires the object at which it is.
         int dueEntries;
@@ -552,8 +556,7 @@ public final class LockSimulator {
             state = RUNNING;
             interrupted = false;
             place = NONE;
-            limited = false;
-            limit = 0;
+            limit = NO_LIMIT;
             dueEntries = 1;
             waitEnding = NONE;
         }
@@ -561,15 +564,12 @@ public final class LockSimulator {
         void leavePlace(int nextState) {
             state = nextState;
             place = NONE;
-            limited = false;
-            dueEntries = 1;
         }
 
         void copyFrom(Strand other) {
             state = other.state;
             interrupted = other.interrupted;
             place = other.place;
-            limited = other.limited;
             limit = other.limit;
             dueEntries = other.dueEntries;
             waitEnding = other.waitEnding;
@@ -657,14 +657,8 @@ public final class LockSimulator {
             entries = 0;
         }
 
-        void biasTo(int thread, int classEpoch) {
-            state = BIASED;
-            biasThread = thread;
-            epoch = classEpoch;
-        }
-
         void loseBias() {
-            state = isHeld() ? THIN : NEUTRAL;
+            state = entries > 0 ? THIN : NEUTRAL;
         }
 
         void putDescription(StringBuilder to, boolean biasValid) {
@@ -899,12 +893,14 @@ public final class LockSimulator {
         }
 
         private void takeBiased(int thread, Lock lock) {
-            boolean biasedToIt = lock.state == Lock.BIASED && lock.biasThread == thread && biasIsValid(lock);
-            if (!biasedToIt) {
-                lock.biasTo(thread, kinds[lock.kind].epoch);
-                counts[Tally.ATOMIC]++;
-            }
             lock.give(thread, 1);
+            if (lock.state == Lock.BIASED && lock.biasThread == thread && biasIsValid(lock)) {
+                return;
+            }
+            lock.state = Lock.BIASED;
+            lock.biasThread = thread;
+            lock.epoch = kinds[lock.kind].epoch;
+            counts[Tally.ATOMIC]++;
         }
 
         private void block(int thread, Lock lock) {
@@ -1085,8 +1081,7 @@ public final class LockSimulator {
             Strand strand = strands[thread];
             strand.state = Strand.WAITING;
             strand.place = lock.number;
-            strand.limited = limit > 0;
-            strand.limit = now + limit;
+            strand.limit = limit == 0 ? Strand.NO_LIMIT : now + limit;
             strand.dueEntries = lock.entries;
             lock.waitSet.append(thread);
         }
@@ -1133,7 +1128,6 @@ public final class LockSimulator {
             lock.waitSet.drop(thread);
             Strand strand = strands[thread];
             strand.state = Strand.BLOCKED;
-            strand.limited = false;
             strand.waitEnding = ending;
         }
 
@@ -1235,8 +1229,8 @@ public final class LockSimulator {
         private void endOverdueWaits() {
             for (int thread = 0; thread < threadCount; thread++) {
                 Strand strand = strands[thread];
-                boolean overdue = strand.state == Strand.WAITING && strand.limited && strand.limit <= now;
-                if (overdue && isObject(strand.place)) {
+                boolean limited = strand.state == Strand.WAITING && strand.limit != Strand.NO_LIMIT;
+                if (limited && strand.limit <= now && isObject(strand.place)) {
                     Lock lock = locks[strand.place];
                     endWait(thread, lock, Strand.TIMED_OUT);
                     lock.queue.append(thread);
