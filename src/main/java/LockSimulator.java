@@ -806,31 +806,28 @@ public final class LockSimulator {
             return thread >= 0 && thread < threadCount && thread < MOST_THREADS;
         }
 
-        private int numberError(int thread, int object) {
+        private int runnerError(int thread, int object) {
             if (!hasThread(thread)) {
                 return BAD_THREAD;
             }
-            return isObject(object) ? 0 : BAD_OBJECT;
+            if (!isObject(object)) {
+                return BAD_OBJECT;
+            }
+            return strands[thread].state == Strand.RUNNING ? 0 : NOT_RUNNING;
         }
 
         private int ownerError(int thread, int object) {
-            int error = numberError(thread, object);
+            int error = runnerError(thread, object);
             if (error != 0) {
                 return error;
-            }
-            if (strands[thread].state != Strand.RUNNING) {
-                return NOT_RUNNING;
             }
             return locks[object].isHeldBy(thread) ? 0 : NOT_OWNER;
         }
 
         private int enterObject(int thread, int object) {
-            int error = numberError(thread, object);
+            int error = runnerError(thread, object);
             if (error != 0) {
                 return error;
-            }
-            if (strands[thread].state != Strand.RUNNING) {
-                return NOT_RUNNING;
             }
             Lock lock = locks[object];
             boolean needsMonitor = entryNeedsMonitor(thread, lock);
@@ -844,21 +841,6 @@ public final class LockSimulator {
             if (needsMonitor) {
                 inflate(lock);
             }
-            return enterPrepared(thread, lock);
-        }
-
-        private boolean entryNeedsMonitor(int thread, Lock lock) {
-            if (!lock.isHeld() || lock.state == Lock.INFLATED) {
-                return false;
-            }
-            if (lock.holder != thread) {
-                return true;
-            }
-            return lock.state == Lock.THIN && lock.entries >= settings.valueOf(Settings.RECURSION_LIMIT);
-        }
-
-        /** Here the object has its monitor if it needs one, and no valid bias to another thread. */
-        private int enterPrepared(int thread, Lock lock) {
             if (lock.isHeldBy(thread)) {
                 lock.entries++;
                 return 4;
@@ -871,6 +853,17 @@ public final class LockSimulator {
             return recovery + take(thread, lock);
         }
 
+        private boolean entryNeedsMonitor(int thread, Lock lock) {
+            if (!lock.isHeld() || lock.state == Lock.INFLATED) {
+                return false;
+            }
+            if (lock.holder != thread) {
+                return true;
+            }
+            return lock.state == Lock.THIN && lock.entries >= settings.valueOf(Settings.RECURSION_LIMIT);
+        }
+
+        /** Here the object is not held, and has no valid bias to another thread. */
         private int take(int thread, Lock lock) {
             switch (lock.state) {
                 case Lock.BIASABLE:
@@ -1048,14 +1041,12 @@ public final class LockSimulator {
         }
 
         private int awaitAt(int thread, int object, int limit) {
-            int error = numberError(thread, object);
-            if (error != 0) {
-                return error;
-            }
-            if (limit < 0 || limit > LONGEST_WAIT) {
+            boolean badLimit = limit < 0 || limit > LONGEST_WAIT;
+            // A wrong number comes before a wrong limit, and the thread's state behind it.
+            if (badLimit && hasThread(thread) && isObject(object)) {
                 return BAD_VALUE;
             }
-            error = ownerError(thread, object);
+            int error = ownerError(thread, object);
             if (error != 0) {
                 return error;
             }
