@@ -1,60 +1,48 @@
 import java.io.IOException;
-import java.lang.reflect.InvocationTargetException;
-import java.lang.reflect.Method;
-import java.nio.file.DirectoryStream;
-import java.nio.file.Files;
-import java.nio.file.Path;
-import java.util.Arrays;
 import java.util.Set;
 import java.util.TreeSet;
 import java.util.regex.Matcher;
 import java.util.regex.Pattern;
 
 /**
- * Runs the calls in src/test/runs, written as the document writes them. A file there holds runs; a
- * run begins with a line "# title" and a new simulator, and its other lines are calls, or one of
- * text, says, right and wrong with a text in quotes (README.md tells what they mean).
+ * Runs the calls in src/test/runs, written as the document writes them (README.md tells the form).
+ * Behind each call for which an error is due, it also looks whether the call changed anything.
  */
 final class RunsTest {
-    private static final Path FOLDER = Path.of("src", "test", "runs");
     private static final int PROMISES = 41;
-    private static final Pattern CALL =
-        Pattern.compile("(?:(\\d+) x )?(\\w+)\\(([^)]*)\\)(?:\\s*=\\s*(-?\\d+))?");
-    private static final Pattern QUOTED = Pattern.compile("(text|says|right|wrong)(?: (\\d))? \"(.*)\"");
+    private static final int LONGEST_DESCRIPTION = 60;
     private static final Pattern NUMBERS = Pattern.compile("[\\d ]*\\d");
 
     private final Set<Integer> promises = new TreeSet<>();
     private String title = "";
-    private LockSimulator simulator = new LockSimulator();
+    private Track track = new Track();
     private int wrong = 0;
     private int answers = 0;
+    private int refusals = 0;
 
-    private void runFile(Path file) throws IOException {
-        for (String line : Files.readAllLines(file)) {
-            if (line.startsWith("# ")) {
-                begin(line.substring(2));
-            } else if (!line.isBlank()) {
-                runLine(line);
-            }
-        }
-    }
-
-    private void begin(String newTitle) {
-        title = newTitle;
-        simulator = new LockSimulator();
+    private void run(Run run) {
+        title = run.title();
+        track = new Track();
         Matcher numbers = NUMBERS.matcher(title);
         if (numbers.lookingAt()) {
             for (String number : numbers.group().split(" ")) {
                 promises.add(Integer.valueOf(number));
             }
         }
+        try {
+            for (String line : run.lines()) {
+                runLine(line);
+            }
+        } catch (IllegalStateException e) {
+            tell(e.getMessage());
+        }
     }
 
     private void runLine(String line) {
-        Matcher quoted = QUOTED.matcher(line);
+        Matcher quoted = Run.QUOTED.matcher(line);
         if (!quoted.matches()) {
-            for (String call : line.split(";")) {
-                runCalls(call.strip());
+            for (String call : Run.calls(line)) {
+                runCalls(call);
             }
             return;
         }
@@ -67,8 +55,9 @@ final class RunsTest {
                 compareDescription(Integer.parseInt(quoted.group(2)), text);
                 break;
             case "right":
+                track = new Track();
                 write(text);
-                compare("fault of '" + text + "'", simulator.fault(), LockSimulator.NONE);
+                compare("fault of '" + text + "'", track.make("fault"), LockSimulator.NONE);
                 break;
             default:
                 refuse(text, 0);
@@ -78,59 +67,67 @@ final class RunsTest {
     }
 
     private void write(String text) {
-        simulator.wipe();
+        track.make("wipe");
         for (int i = 0; i < text.length(); i++) {
-            compare("write(" + (int) text.charAt(i) + ")", simulator.write(text.charAt(i)), i + 1);
+            compare("write(" + (int) text.charAt(i) + ")", track.make("write", text.charAt(i)), i + 1);
         }
     }
 
     private void refuse(String text, int fault) {
+        track = new Track();
         write(text);
-        compare("fault of '" + text + "'", simulator.fault(), fault);
-        compare("run of '" + text + "'", simulator.run(), LockSimulator.NOT_POSSIBLE);
-        compare("recorded after '" + text + "'", simulator.recorded(), 0);
+        compare("fault of '" + text + "'", track.make("fault"), fault);
+        compare("run of '" + text + "'", track.make("run"), LockSimulator.NOT_POSSIBLE);
+        lookForTrace();
+        compare("recorded after '" + text + "'", track.make("recorded"), 0);
     }
 
     private void compareDescription(int object, String due) {
         StringBuilder got = new StringBuilder();
-        for (int k = 0; k < 100 && simulator.describe(object, k) >= 0; k++) {
-            got.append((char) simulator.describe(object, k));
+        for (int k = 0; k < LONGEST_DESCRIPTION; k++) {
+            int code = track.make("describe", object, k);
+            if (code < 0) {
+                compare("describe behind the end", code, LockSimulator.NONE);
+                break;
+            }
+            got.append((char) code);
         }
         answers++;
         if (!got.toString().equals(due)) {
             tell("the description of " + object + " is '" + got + "', due is '" + due + "'");
         }
-        compare("describe behind the end", simulator.describe(object, due.length()), LockSimulator.NONE);
     }
 
     private void runCalls(String call) {
-        Matcher parts = CALL.matcher(call);
+        Matcher parts = Run.CALL.matcher(call);
         if (!parts.matches()) {
             tell("cannot read the call '" + call + "'");
             return;
         }
+        String[] words = parts.group(3).isBlank() ? new String[0] : parts.group(3).split(", ");
+        int[] arguments = new int[words.length];
+        for (int i = 0; i < words.length; i++) {
+            arguments[i] = Integer.parseInt(words[i]);
+        }
         int times = parts.group(1) == null ? 1 : Integer.parseInt(parts.group(1));
         for (int i = 0; i < times; i++) {
-            int got = invoke(parts.group(2), parts.group(3).isBlank() ? new String[0] : parts.group(3).split(", "));
+            int got = track.make(parts.group(2), arguments);
             if (parts.group(4) != null) {
-                compare(call, got, Integer.parseInt(parts.group(4)));
+                int due = Integer.parseInt(parts.group(4));
+                compare(call, got, due);
+                if (due < 0 && due != LockSimulator.NONE && due != LockSimulator.INTERRUPTED) {
+                    lookForTrace();
+                }
             }
         }
     }
 
-    private int invoke(String name, String[] arguments) {
-        Class<?>[] types = new Class<?>[arguments.length];
-        Arrays.fill(types, int.class);
-        Object[] numbers = Arrays.stream(arguments).map(Integer::valueOf).toArray();
-        try {
-            Method method = LockSimulator.class.getMethod(name, types);
-            return (Integer) method.invoke(simulator, numbers);
-        } catch (InvocationTargetException e) {
-            tell(name + " threw " + e.getCause());
-        } catch (ReflectiveOperationException e) {
-            tell("cannot call " + name + ": " + e);
+    private void lookForTrace() {
+        refusals++;
+        String trace = Probes.trace(track);
+        if (trace != null) {
+            tell(track.last().words() + " is refused but changes something: " + trace);
         }
-        return Integer.MIN_VALUE;
     }
 
     private void compare(String call, int got, int due) {
@@ -145,14 +142,15 @@ final class RunsTest {
         System.out.println(title + ": " + what);
     }
 
-    private void finish() {
+    private void finish(int runs) {
         for (int promise = 1; promise <= PROMISES; promise++) {
             if (!promises.contains(promise)) {
                 wrong++;
                 System.out.println("no run names promise " + promise);
             }
         }
-        System.out.println(answers + " answers compared, " + wrong + " wrong");
+        System.out.println(runs + " runs, " + answers + " answers compared, " + refusals
+            + " refused calls looked behind, " + wrong + " wrong");
         if (wrong != 0) {
             System.exit(1);
         }
@@ -160,11 +158,11 @@ final class RunsTest {
 
     public static void main(String[] args) throws IOException {
         RunsTest test = new RunsTest();
-        try (DirectoryStream<Path> files = Files.newDirectoryStream(FOLDER, "*.txt")) {
-            for (Path file : files) {
-                test.runFile(file);
-            }
+        int runs = 0;
+        for (Run run : Run.all()) {
+            test.run(run);
+            runs++;
         }
-        test.finish();
+        test.finish(runs);
     }
 }
