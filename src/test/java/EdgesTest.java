@@ -11,25 +11,29 @@ import java.util.regex.Matcher;
 import java.util.regex.Pattern;
 
 /**
- * Compares the names of the runs in the edges files with the document: each names a promise, or the
- * terms, and quotes a sentence that stands there; and each sentence there is quoted by one.
- * Each error of a method ends a run, and another run shows that it changed nothing.
+ * Compares the names of the runs in the edges files with the document: each names a promise, the
+ * terms or the beginning, and quotes a sentence that stands there; and each sentence there is quoted
+ * by one. Each error of a method ends a run, and another run shows that it changed nothing. The runs
+ * of the examples are the document's, call for call.
  */
 final class EdgesTest {
     private static final Path DOCUMENT = Path.of("..", "shared", "DOC.md");
-    private static final Pattern TITLE = Pattern.compile("(Terms|\\d+) \"(.*)\": (.+)");
-    private static final Pattern HEADING = Pattern.compile("(?:Promise )?(Terms|\\d+).*");
+    private static final Pattern TITLE = Pattern.compile("(What it is|Terms|\\d+) \"(.*)\": (.+)");
+    private static final Pattern HEADING = Pattern.compile("(?:Promise )?(What it is|Terms|\\d+).*");
     private static final Pattern METHOD = Pattern.compile("`int (\\w+)\\(");
     private static final Pattern CONSTANT = Pattern.compile("`(\\w+) = (-\\d)`");
     private static final String UNCHANGED = "A call that reports an error changes nothing";
-    /** Headings inside of the terms, and parameters of which nothing more is said. */
+    /** Headings inside of the terms, parameters of which nothing more is said, and what is free. */
     private static final Set<String> BARE = Set.of(
-        "Threads and objects", "Settings", "Lock words", "Inflation", "Entering", "Releasing", "Ticks", "Dying",
+        "what later calls answer is free", "Threads and objects", "Settings", "Lock words", "Inflation", "Entering", "Releasing", "Ticks", "Dying",
         "Costs", "The record", "The text", "Errors", "the thread", "the object", "a thread", "an object");
+
+    private static final Pattern EXAMPLE = Pattern.compile("(?m)^(\\d)\\. [^:]*: (.*)\\.$");
 
     private final Map<String, String> sections = new LinkedHashMap<>();
     private final Map<String, Integer> constants = new LinkedHashMap<>();
     private final Map<String, List<String>> quotes = new LinkedHashMap<>();
+    private final Map<String, List<String>> examples = new LinkedHashMap<>();
     private final Set<String> ends = new HashSet<>();
     private final Set<String> shown = new HashSet<>();
     private int wrong = 0;
@@ -41,7 +45,12 @@ final class EdgesTest {
     }
 
     private void readDocument() throws IOException {
-        for (String section : Files.readString(DOCUMENT).split("(?m)^## ")) {
+        String document = Files.readString(DOCUMENT);
+        Matcher example = EXAMPLE.matcher(document);
+        while (example.find()) {
+            examples.put("example " + example.group(1), Run.calls(example.group(2)));
+        }
+        for (String section : document.split("(?m)^## ")) {
             Matcher heading = HEADING.matcher(section.lines().findFirst().orElse(""));
             if (heading.matches()) {
                 String name = heading.group(1);
@@ -54,8 +63,9 @@ final class EdgesTest {
         while (constant.find()) {
             constants.put(constant.group(1), Integer.valueOf(constant.group(2)));
         }
-        if (sections.size() != 42 || constants.size() != 9) {
-            tell("read " + sections.size() + " sections and " + constants.size() + " constants of the document");
+        if (sections.size() != 43 || constants.size() != 9 || examples.size() != 5) {
+            tell("read " + sections.size() + " sections, " + constants.size() + " constants and "
+                + examples.size() + " examples of the document");
         }
     }
 
@@ -106,8 +116,7 @@ final class EdgesTest {
     private void readRefusal(Run run, String note) {
         String[] words = note.split(", ");
         String refused = words.length < 2 ? "" : words[0] + " = " + constants.get(words[1]);
-        List<String> calls = new ArrayList<>();
-        run.lines().forEach(line -> calls.addAll(Run.calls(line)));
+        List<String> calls = allCalls(run);
         for (int i = 0; i < calls.size() - 1; i++) {
             Matcher call = Run.CALL.matcher(calls.get(i));
             if (call.matches() && refused.equals(call.group(2) + " = " + call.group(4))) {
@@ -116,6 +125,18 @@ final class EdgesTest {
             }
         }
         tell("the refused call is missing or the last one: " + run.title());
+    }
+
+    private static List<String> allCalls(Run run) {
+        List<String> calls = new ArrayList<>();
+        run.lines().forEach(line -> calls.addAll(Run.calls(line)));
+        return calls;
+    }
+
+    private void checkExample(Run run) {
+        if (!allCalls(run).equals(examples.remove(run.title()))) {
+            tell(run.title() + " is not as in the document");
+        }
     }
 
     private void checkSentences() {
@@ -179,8 +200,11 @@ final class EdgesTest {
                 if (!titles.add(run.title())) {
                     test.tell("two runs have this name: " + run.title());
                 }
+            } else if (run.file().equals("examples.txt")) {
+                test.checkExample(run);
             }
         }
+        test.examples.keySet().forEach(example -> test.tell("there is no run of " + example));
         test.checkSentences();
         test.checkErrors();
         System.out.println(runs + " runs quote " + test.sentences + " sentences, " + test.wrong + " faults");
