@@ -7,7 +7,9 @@ import com.sun.source.tree.CompoundAssignmentTree;
 import com.sun.source.tree.DoWhileLoopTree;
 import com.sun.source.tree.ExpressionTree;
 import com.sun.source.tree.ForLoopTree;
+import com.sun.source.tree.IdentifierTree;
 import com.sun.source.tree.LiteralTree;
+import com.sun.source.tree.MemberSelectTree;
 import com.sun.source.tree.MethodInvocationTree;
 import com.sun.source.tree.MethodTree;
 import com.sun.source.tree.NewArrayTree;
@@ -36,6 +38,7 @@ import javax.lang.model.element.TypeElement;
 import javax.lang.model.element.VariableElement;
 import javax.lang.model.type.ArrayType;
 import javax.lang.model.type.DeclaredType;
+import javax.lang.model.type.TypeKind;
 import javax.lang.model.type.TypeMirror;
 import javax.tools.JavaCompiler;
 import javax.tools.StandardJavaFileManager;
@@ -67,6 +70,9 @@ final class RulesTest extends TreePathScanner<Void, Void> {
     private static final EnumSet<Kind> FORBIDDEN = EnumSet.of(
         Kind.THROW, Kind.TRY, Kind.CATCH, Kind.SYNCHRONIZED, Kind.ASSERT, Kind.LAMBDA_EXPRESSION,
         Kind.MEMBER_REFERENCE, Kind.SWITCH_EXPRESSION, Kind.ANNOTATION, Kind.PACKAGE, Kind.INSTANCE_OF);
+
+    private static final EnumSet<Kind> STEPS = EnumSet.of(
+        Kind.POSTFIX_INCREMENT, Kind.POSTFIX_DECREMENT, Kind.PREFIX_INCREMENT, Kind.PREFIX_DECREMENT);
 
     private final Trees trees;
     private final CompilationUnitTree unit;
@@ -178,8 +184,12 @@ final class RulesTest extends TreePathScanner<Void, Void> {
 
     @Override
     public Void visitMethod(MethodTree tree, Void unused) {
-        Element method = trees.getElement(getCurrentPath());
+        ExecutableElement method = (ExecutableElement) trees.getElement(getCurrentPath());
         calls.computeIfAbsent(method, k -> new LinkedHashSet<>());
+        TypeMirror answer = method.getReturnType();
+        if (answer.getKind() != TypeKind.VOID && !isAllowed(answer)) {
+            tell(3, method + " answers the type " + answer, tree);
+        }
         if (tree.getParameters().size() > MOST_PARAMETERS) {
             tell(11, method + " takes too many parameters", tree);
         }
@@ -280,7 +290,6 @@ final class RulesTest extends TreePathScanner<Void, Void> {
         if (isText(tree.getVariable())) {
             tell(10, "texts joined by +: " + tree, tree);
         }
-        checkTarget(tree.getVariable());
         return super.visitCompoundAssignment(tree, unused);
     }
 
@@ -300,18 +309,39 @@ final class RulesTest extends TreePathScanner<Void, Void> {
     }
 
     @Override
-    public Void visitAssignment(AssignmentTree tree, Void unused) {
-        checkTarget(tree.getVariable());
-        return super.visitAssignment(tree, unused);
+    public Void visitIdentifier(IdentifierTree tree, Void unused) {
+        checkRowIsRead(tree);
+        return super.visitIdentifier(tree, unused);
     }
 
-    private void checkTarget(ExpressionTree target) {
-        if (target instanceof ArrayAccessTree access) {
-            Element row = element(access.getExpression());
-            if (row != null && row.getModifiers().contains(Modifier.STATIC)) {
-                tell(5, "a constant row is changed: " + target, target);
-            }
+    @Override
+    public Void visitMemberSelect(MemberSelectTree tree, Void unused) {
+        checkRowIsRead(tree);
+        return super.visitMemberSelect(tree, unused);
+    }
+
+    /** A constant row is read by an index or copied from; by no other way could one see that it stays. */
+    private void checkRowIsRead(ExpressionTree name) {
+        Element row = trees.getElement(getCurrentPath());
+        boolean constant = row != null && row.getKind() == ElementKind.FIELD
+            && row.getModifiers().contains(Modifier.STATIC) && row.asType() instanceof ArrayType;
+        if (!constant) {
+            return;
         }
+        TreePath around = getCurrentPath().getParentPath();
+        Tree use = around.getLeaf();
+        boolean element = use instanceof ArrayAccessTree && !isTarget(use, around.getParentPath().getLeaf());
+        boolean copied = use instanceof MethodInvocationTree call && call.getArguments().get(0) == name
+            && call.getMethodSelect().toString().equals("System.arraycopy");
+        if (!element && !copied) {
+            tell(5, "a constant row might be changed: " + use, name);
+        }
+    }
+
+    private static boolean isTarget(Tree tree, Tree around) {
+        boolean assigned = around instanceof AssignmentTree assignment && assignment.getVariable() == tree;
+        boolean joined = around instanceof CompoundAssignmentTree compound && compound.getVariable() == tree;
+        return assigned || joined || STEPS.contains(around.getKind());
     }
 
     /** Every loop of the program counts, so that its end can be seen. */
